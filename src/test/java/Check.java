@@ -1,4 +1,8 @@
+import java.util.ArrayList;
+import java.util.List;
 import java.util.NoSuchElementException;
+import java.util.function.Consumer;
+import java.util.function.Supplier;
 
 /** What the tests share: comparing answers, typing texts, and the end with its exit code. */
 final class Check {
@@ -6,6 +10,13 @@ final class Check {
     static final Class<? extends RuntimeException> MISSING = NoSuchElementException.class;
     static final Class<? extends RuntimeException> FULL = IllegalStateException.class;
     static final Class<? extends RuntimeException> OUTSIDE = IndexOutOfBoundsException.class;
+
+    static final int LOWEST = Integer.MIN_VALUE;
+    static final int HIGHEST = Integer.MAX_VALUE;
+
+    // The first wrong numbers on either side, those that a mask or a cast would make right, the farthest.
+    static final int[] NOT_0_TO_63 = {-1, 64, -64, 65, 128, 255, 256, 65536, LOWEST, HIGHEST};
+    static final int[] NOT_0_TO_255 = {-1, 256, -128, -256, 257, 511, 65536, LOWEST, HIGHEST};
 
     interface Call {
         void make();
@@ -15,6 +26,13 @@ final class Check {
 
     void due(String what, long got, long want) {
         if (got != want) {
+            wrong++;
+            System.out.println(what + " answered " + got + ", due is " + want);
+        }
+    }
+
+    void due(String what, String got, String want) {
+        if (!got.equals(want)) {
             wrong++;
             System.out.println(what + " answered " + got + ", due is " + want);
         }
@@ -34,6 +52,29 @@ final class Check {
         }
     }
 
+    /** The call is refused, and behind it the machine is as one made alike and never called so. */
+    void refusedWithoutTrace(String what, Class<? extends RuntimeException> want,
+            Supplier<MicroMachine> maker, Consumer<MicroMachine> call) {
+        MicroMachine x = maker.get();
+        refused(what, want, () -> call.accept(x));
+        alike(what, x, maker.get());
+    }
+
+    /** Uses both machines up. */
+    void alike(String what, MicroMachine got, MicroMachine want) {
+        changedTo(what, got, want);
+    }
+
+    /** Just these lines of the machine's state are other than the untouched one's; uses both up. */
+    void changedTo(String what, MicroMachine touched, MicroMachine untouched, String... due) {
+        List<String> got = State.of(touched);
+        List<String> before = State.of(untouched);
+        List<String> changed = new ArrayList<>(got);
+        changed.removeAll(before);
+        due(what + ": changed", changed.toString(), List.of(due).toString());
+        due(what + ": lines", got.size(), before.size());
+    }
+
     void unreadable(String text, int place) {
         MicroMachine x = new MicroMachine();
         type(x, text);
@@ -41,6 +82,20 @@ final class Check {
         due("place of " + text, x.count(0), place);
         due("length behind " + text, x.count(1), 0);
         due("words behind " + text, x.count(2), 0);
+    }
+
+    void readable(String text, int parts) {
+        MicroMachine x = new MicroMachine();
+        int got = -1;
+        type(x, text);
+        try {
+            got = x.word(0);
+        } catch (IllegalArgumentException e) {
+            System.out.println(text + " can't be read from " + x.count(0));
+        }
+        due("parts of " + text, got, parts);
+        due("place of " + text, x.count(0), -1);
+        due("words behind " + text, x.count(2), 1);
     }
 
     void end() {
@@ -75,6 +130,12 @@ final class Check {
         for (int i = 0; i < texts.length; i++) {
             word(x, i, texts[i]);
         }
+        return x;
+    }
+
+    static MicroMachine typed(String text) {
+        MicroMachine x = new MicroMachine();
+        type(x, text);
         return x;
     }
 }

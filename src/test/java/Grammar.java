@@ -167,6 +167,30 @@ final class Grammar {
         return text.toString();
     }
 
+    /** The text with a slip or two in it, or none. */
+    static String spoiled(String text, Random random) {
+        StringBuilder spoiled = new StringBuilder(text);
+        for (int slips = random.nextInt(3); slips > 0; slips--) {
+            spoil(spoiled, random);
+        }
+        return spoiled.toString();
+    }
+
+    private static void spoil(StringBuilder text, Random random) {
+        String likely = "ADPSLCTOHMU=+-!&|01<>;frwgznm,69";
+        char c = likely.charAt(random.nextInt(likely.length()));
+        int at = random.nextInt(text.length() + 1);
+        if (at == text.length() || random.nextInt(3) == 0) {
+            text.insert(at, c);
+        } else if (random.nextBoolean()) {
+            text.setCharAt(at, c);
+        } else if (random.nextBoolean()) {
+            text.deleteCharAt(at);
+        } else {
+            text.setLength(at);
+        }
+    }
+
     private static void add(StringBuilder text, String part) {
         text.append(text.length() > 0 ? ";" : "").append(part);
     }

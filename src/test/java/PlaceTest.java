@@ -33,26 +33,7 @@ public final class PlaceTest {
     private void readSpoiled(int texts) {
         Random random = new Random(20261115);
         for (int i = 0; i < texts; i++) {
-            StringBuilder text = new StringBuilder(grammar.anyText(random, 64));
-            for (int slips = random.nextInt(3); slips > 0; slips--) {
-                spoil(text, random);
-            }
-            compare(text.toString());
-        }
-    }
-
-    private static void spoil(StringBuilder text, Random random) {
-        String likely = "ADPSLCTOHMU=+-!&|01<>;frwgznm,69";
-        char c = likely.charAt(random.nextInt(likely.length()));
-        int at = random.nextInt(text.length() + 1);
-        if (at == text.length() || random.nextInt(3) == 0) {
-            text.insert(at, c);
-        } else if (random.nextBoolean()) {
-            text.setCharAt(at, c);
-        } else if (random.nextBoolean()) {
-            text.deleteCharAt(at);
-        } else {
-            text.setLength(at);
+            compare(Grammar.spoiled(grammar.anyText(random, 64), random));
         }
     }
 
