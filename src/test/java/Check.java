@@ -60,19 +60,22 @@ final class Check {
         alike(what, x, maker.get());
     }
 
-    /** Uses both machines up. */
+    /** Nothing tells the two machines apart; uses both up. */
     void alike(String what, MicroMachine got, MicroMachine want) {
-        changedTo(what, got, want);
+        List<String> there = State.of(got);
+        List<String> due = State.of(want);
+        due(what + ": state", linesOnlyIn(there, due), linesOnlyIn(due, there));
     }
 
     /** Just these lines of the machine's state are other than the untouched one's; uses both up. */
     void changedTo(String what, MicroMachine touched, MicroMachine untouched, String... due) {
-        List<String> got = State.of(touched);
-        List<String> before = State.of(untouched);
-        List<String> changed = new ArrayList<>(got);
-        changed.removeAll(before);
-        due(what + ": changed", changed.toString(), List.of(due).toString());
-        due(what + ": lines", got.size(), before.size());
+        due(what + ": changed", linesOnlyIn(State.of(touched), State.of(untouched)), List.of(due).toString());
+    }
+
+    private static String linesOnlyIn(List<String> lines, List<String> others) {
+        List<String> only = new ArrayList<>(lines);
+        only.removeAll(others);
+        return only.toString();
     }
 
     void unreadable(String text, int place) {

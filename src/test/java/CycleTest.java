@@ -402,10 +402,9 @@ public final class CycleTest {
 
     /** The places are those of step (2), not those before. */
     private static void looksAtPlacesBehindShifting() {
-        int[][] leftThenRight = {{1, 256}, {-1, -256}};
-        for (int[] pair : leftThenRight) {
-            refusedAt("A=S< of " + pair[0], () -> withS("A=S<;r", pair[0]));
-            refusedAt("P=S< of " + pair[0], () -> withS("P=S<;f", pair[0]));
+        for (int s : new int[] {1, -1}) {
+            refusedAt("A=S< of " + s, () -> withS("A=S<;r", s));
+            refusedAt("P=S< of " + s, () -> withS("P=S<;f", s));
         }
         for (int s : new int[] {-2, -1, 128, 129}) {
             refusedAt("A=S> of " + s, () -> withS("A=S>;w", s));

@@ -23,6 +23,7 @@ public final class ReadingTest {
         takesNumbersUpTo63();
         findsThePlaceInALongText();
         takesEveryCharacter();
+        readsNothingBehindTheEnd();
         CHECK.end();
     }
 
@@ -169,6 +170,7 @@ public final class ReadingTest {
             CHECK.unreadable("D=H+" + b + "-1", 5);
             CHECK.unreadable("D=H+" + b + "+", 6);
             CHECK.unreadable("D=H+" + b + "+0", 6);
+            CHECK.unreadable("D=H+" + b + "+2", 6);
             CHECK.unreadable("D=H&" + b + "+1", 5);
             CHECK.unreadable("D=!" + b + "+1", 4);
             CHECK.unreadable("D=" + b + b, 3);
@@ -176,9 +178,9 @@ public final class ReadingTest {
         for (String value : "A +1 +H =0 2 9 <".split(" ")) {
             CHECK.unreadable("H=" + value + ";g1", value.equals("A") ? 3 : 2);
         }
-        for (String behindH : "-1 -D H A !D 1 &1 |1 &H |H &A +0 +2 +H +A +U+2 +-1".split(" ")) {
-            int right = "&|".indexOf(behindH.charAt(0)) >= 0 || behindH.startsWith("+") ? behindH.startsWith("+U+") ? 3 : 1 : 0;
-            CHECK.unreadable("S=H" + behindH, 3 + right);
+        for (String behindH : "-1 -D H A !D 1 &1 |1 &H |H &A +0 +2 +H +A +-1".split(" ")) {
+            boolean isBegun = "&|+".indexOf(behindH.charAt(0)) >= 0;
+            CHECK.unreadable("S=H" + behindH, isBegun ? 4 : 3);
         }
         for (String value : "!0 !1 !! !A !- -0 -2 -- -A -D".split(" ")) {
             CHECK.unreadable("S=" + value, 3);
@@ -330,6 +332,28 @@ public final class ReadingTest {
             CHECK.readable(text, 1);
         } else {
             CHECK.unreadable(text, "A!-".indexOf(c) >= 0 ? 3 : 2);
+        }
+    }
+
+    /** "or its length, if just the end is wrong": what an older, longer text left is no part of it. */
+    private static void readsNothingBehindTheEnd() {
+        String texts = LONGEST + " D=!S D=-1 D=H&S D=H|U D=S+1 D=S-H D=H+1 m12 n12,34 g5 f;w A=D=0";
+        for (String older : texts.split(" ")) {
+            for (int cut = 0; cut < older.length(); cut++) {
+                MicroMachine x = Check.machine(older);
+                String text = older.substring(0, cut);
+                CHECK.due(text + " behind " + older, readBy(x, text), readBy(new MicroMachine(), text));
+            }
+        }
+    }
+
+    /** The parts, or, below 0, the place. */
+    private static int readBy(MicroMachine x, String text) {
+        Check.type(x, text);
+        try {
+            return x.word(1);
+        } catch (IllegalArgumentException e) {
+            return -1 - x.count(0);
         }
     }
 }

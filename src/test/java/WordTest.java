@@ -59,20 +59,10 @@ public final class WordTest {
         Check.word(x, 1, "A=D=P=S=H+L+1<;f;r;z63,63");
         Check.word(x, 1, "S=-1>;n3,2");
         CHECK.alike("back to what it was", x, Busy.machine("r;f", ""));
-        String[] told = {"count 1: 0", "count 2: 6", "told 61, 0: 64", "told 61, 1: 0", "told 61, 2: 0", "told 61, 3: 1",
-            "told 61, 4: 9", "told 61, 5: -1", "told 61, 6: 2"};
-        MicroMachine y = Busy.machine("r;f", "T=0>;g9");
-        MicroMachine before = Busy.machine("r;f", "T=0>;g9");
-        y.word(61);
-        for (int what = 1; what < 3; what++) {
-            CHECK.due(told[what - 1], "count " + what + ": " + y.count(what), told[what - 1]);
-        }
-        for (int what = 0; what < 7; what++) {
-            CHECK.due(told[what + 2], "told 61, " + what + ": " + y.told(61, what), told[what + 2]);
-        }
-        y.erase(61);
-        Check.type(y, "T=0>;g9");
-        CHECK.alike("all else stays", y, before);
+        MicroMachine y = Busy.machine("r;f", "");
+        Check.word(y, 61, "T=0>;g9");
+        CHECK.changedTo("one more", y, Busy.machine("r;f", ""), "count 2: 6", "told 61, 0: 64", "told 61, 1: 0",
+                "told 61, 2: 0", "told 61, 3: 1", "told 61, 4: 9", "told 61, 5: -1", "told 61, 6: 2");
     }
 
     private static void fillsTheStore() {
